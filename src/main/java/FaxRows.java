@@ -37,6 +37,7 @@ public final class FaxRows {
     private static final int MARK_ZEROS = 11;
     private static final int BIT_0 = 0b1_0;
     private static final int BIT_1 = 0b1_1;
+    private static final int NO_CODE = 0b1;
     private static final int LONGEST_CODE = 13;
 
     /** By the numbers that mode() answers, and the extension behind them. */
@@ -231,13 +232,13 @@ public final class FaxRows {
     /** The 1 that stands before a code's own bits. */
     private static int topBit(int code) {
         int bit = 1 << LONGEST_CODE;
-        while (bit > code) {
+        while (bit > 1 && bit > code) {
             bit >>= 1;
         }
         return bit;
     }
 
-    /** The row that is made, 32 samples to a word, so that a wide white row is soon gone through. */
+    /** The row that is made, 32 samples to a word: a wide white row is soon gone through. */
     private static final class Samples {
         private final int width;
         private final int[] words;
@@ -308,13 +309,17 @@ public final class FaxRows {
             return list >= 0 && list < closed;
         }
 
-        /** Of the open list too, whose number is count(). */
+        /** Of a closed list, or of the open one, whose number is count(). */
         int length(int list) {
             return list >= 0 && list <= closed ? starts[list + 1] - starts[list] : 0;
         }
 
-        int item(int list, int k) {
-            return k >= 0 && k < length(list) ? items[starts[list] + k] : NONE;
+        /** Item k of a list, also of the open one; what is told for none if there is no such. */
+        int item(int list, int k, int none) {
+            if (list < 0 || list > closed || k < 0 || k >= starts[list + 1] - starts[list]) {
+                return none;
+            }
+            return items[starts[list] + k];
         }
 
         void append(int item) {
@@ -326,12 +331,14 @@ public final class FaxRows {
             starts[closed + 1] = end + 1;
         }
 
-        /** A number that comes a second time takes itself away. */
-        void appendOrCancel(int item) {
-            if (item(closed, length(closed) - 1) == item) {
+        /** Of the open list. */
+        int last() {
+            return item(closed, starts[closed + 1] - starts[closed] - 1, NONE);
+        }
+
+        void dropLast() {
+            if (length(closed) > 0) {
                 starts[closed + 1]--;
-            } else {
-                append(item);
             }
         }
 
@@ -349,24 +356,28 @@ public final class FaxRows {
         void appendAll(int list) {
             int length = length(list);
             for (int k = 0; k < length; k++) {
-                append(item(list, k));
+                append(item(list, k, NONE));
             }
         }
     }
 
-    /** Bits one behind the other in bytes. All bytes behind them are 0. */
+    /** Bits one behind the other in bytes, and where reading stands in them. */
     private static final class Bits {
+        /** All bytes behind the bits are 0, so that zeros are added by counting them. */
         private byte[] bytes = new byte[64];
         private int count;
-        private boolean lowestFirst;
+        private int place;
+        /** By which a bit's number in its byte gives its shift: 7 from the highest on, else 0. */
+        private int turn = 7;
 
         void setLowestFirst(boolean lowestFirst) {
-            this.lowestFirst = lowestFirst;
+            turn = lowestFirst ? 0 : 7;
         }
 
         void removeAll() {
             Arrays.fill(bytes, 0, byteCount(), (byte) 0);
             count = 0;
+            place = 0;
         }
 
         int count() {
@@ -379,24 +390,6 @@ public final class FaxRows {
 
         int byteOf(int i) {
             return i >= 0 && i < byteCount() ? bytes[i] & 255 : NONE;
-        }
-
-        boolean isOne(int place) {
-            return place >= 0 && place < count
-                    && (bytes[place >> 3] >> placeInByte(place) & 1) == 1;
-        }
-
-        /** Where the next 1 stands, from a place on; the count of bits if there is none. */
-        int nextOne(int from) {
-            int place = Math.max(from, 0);
-            while (place < count) {
-                if (isOne(place)) {
-                    return place;
-                }
-                // Long fill is mostly whole bytes of 0.
-                place += (place & 7) == 0 && byteOf(place >> 3) == 0 ? 8 : 1;
-            }
-            return count;
         }
 
         void addByte(int b) {
@@ -414,7 +407,7 @@ public final class FaxRows {
             makeRoomFor(LONGEST_CODE);
             for (int bit = topBit(code) >> 1; bit > 0; bit >>= 1) {
                 if ((code & bit) != 0) {
-                    bytes[count >> 3] |= 1 << placeInByte(count);
+                    bytes[count >> 3] |= 1 << (count & 7 ^ turn);
                 }
                 count++;
             }
@@ -424,8 +417,53 @@ public final class FaxRows {
             count = 8 * byteCount();
         }
 
-        private int placeInByte(int place) {
-            return lowestFirst ? place & 7 : 7 - (place & 7);
+        void beginReading() {
+            place = 0;
+        }
+
+        int left() {
+            return count - place;
+        }
+
+        /** Of the bit that is so many behind the place of reading. */
+        boolean isOne(int ahead) {
+            int i = place + ahead;
+            return i >= 0 && i < count && (bytes[i >> 3] >> (i & 7 ^ turn) & 1) == 1;
+        }
+
+        void skip(int more) {
+            place += more;
+        }
+
+        boolean isAtMark() {
+            int zeros = zerosAhead(0);
+            return zeros < left() && zeros >= MARK_ZEROS;
+        }
+
+        /** Goes behind the next mark, however far it is; false if there is none. */
+        boolean skipToMark() {
+            int ahead = 0;
+            int zeros = zerosAhead(ahead);
+            while (ahead + zeros < left() && zeros < MARK_ZEROS) {
+                ahead += zeros + 1;
+                zeros = zerosAhead(ahead);
+            }
+            if (ahead + zeros >= left()) {
+                return false;
+            }
+            place += ahead + zeros + 1;
+            return true;
+        }
+
+        /** How many bits of 0 stand in a row, so many behind the place of reading. */
+        private int zerosAhead(int ahead) {
+            int start = place + ahead;
+            int i = start;
+            while (i < count && !isOne(i - place)) {
+                // Long fill is mostly whole bytes of 0.
+                i += (i & 7) == 0 && byteOf(i >> 3) == 0 ? 8 : 1;
+            }
+            return Math.min(i, count) - start;
         }
 
         private void makeRoomFor(int more) {
@@ -477,17 +515,17 @@ public final class FaxRows {
         }
 
         int b1() {
-            return placeOf(numberOfB1());
+            return rows.item(above, numberOfB1(), width);
         }
 
         int b2() {
-            return placeOf(numberOfB1() + 1);
+            return rows.item(above, numberOfB1() + 1, width);
         }
 
         void moveTo(int x) {
             a0 = x;
             int length = rows.length(above);
-            while (next < length && rows.item(above, next) <= a0) {
+            while (next < length && rows.item(above, next, width) <= a0) {
                 next++;
             }
         }
@@ -500,11 +538,6 @@ public final class FaxRows {
         private int numberOfB1() {
             boolean nextIsToBlack = (next & 1) == 0;
             return nextIsToBlack != black ? next : next + 1;
-        }
-
-        private int placeOf(int number) {
-            int place = rows.item(above, number);
-            return place == NONE ? width : place;
         }
     }
 
@@ -564,7 +597,7 @@ public final class FaxRows {
             int runs = rows.length(row) + 1;
             int start = 0;
             for (int k = 0; k < runs; k++) {
-                int end = changeOrEnd(row, k);
+                int end = rows.item(row, k, width);
                 writeRun(end - start, k % 2 == 1);
                 start = end;
             }
@@ -575,7 +608,7 @@ public final class FaxRows {
             int k = 0;
             // Each mode goes on by a sample at least, from just before the row to its end.
             for (int i = 0; i <= width && !told.isWhole(); i++) {
-                int a1 = changeOrEnd(row, k);
+                int a1 = rows.item(row, k, width);
                 int right = a1 - told.b1();
                 if (told.b2() < a1) {
                     out.addCode(MODES[PASS]);
@@ -585,48 +618,42 @@ public final class FaxRows {
                     told.turnAt(a1);
                     k++;
                 } else {
-                    writeHorizontal(a1, changeOrEnd(row, k + 1));
+                    int a2 = rows.item(row, k + 1, width);
+                    out.addCode(MODES[HORIZONTAL]);
+                    writeRun(a1 - told.runStart(), told.isBlack());
+                    writeRun(a2 - a1, !told.isBlack());
+                    told.moveTo(a2);
                     k += 2;
                 }
             }
         }
 
-        private void writeHorizontal(int a1, int a2) {
-            out.addCode(MODES[HORIZONTAL]);
-            writeRun(a1 - told.runStart(), told.isBlack());
-            writeRun(a2 - a1, !told.isBlack());
-            told.moveTo(a2);
-        }
-
         private void writeRun(int length, boolean black) {
             int left = length;
             while (left >= LONGEST_RUN) {
-                writeRunCode(LONGEST_RUN / 64 + 63, black);
+                out.addCode(runCode(LONGEST_RUN / 64 + 63, black));
                 left -= LONGEST_RUN;
             }
             if (left >= 64) {
-                writeRunCode(left / 64 + 63, black);
+                out.addCode(runCode(left / 64 + 63, black));
             }
-            writeRunCode(left % 64, black);
+            out.addCode(runCode(left % 64, black));
         }
 
-        private void writeRunCode(int number, boolean black) {
+        /** By the numbers in the tables, where the long runs come behind the colour's own. */
+        private int runCode(int number, boolean black) {
             int[] codes = black ? BLACK_RUNS : WHITE_RUNS;
-            int ofBoth = number - codes.length;
-            if (number >= 0 && ofBoth < 0) {
-                out.addCode(codes[number]);
-            } else if (ofBoth >= 0 && ofBoth < LONG_RUNS.length) {
-                out.addCode(LONG_RUNS[ofBoth]);
+            int numberOfLong = number - codes.length;
+            if (number >= 0 && numberOfLong < 0) {
+                return codes[number];
             }
-        }
-
-        private int changeOrEnd(int row, int k) {
-            int place = rows.item(row, k);
-            return place == NONE ? width : place;
+            return numberOfLong >= 0 && numberOfLong < LONG_RUNS.length
+                    ? LONG_RUNS[numberOfLong]
+                    : NO_CODE;
         }
     }
 
-    /** Codes by their bits: each node has two branches, to a node, to a code's number or to none. */
+    /** Codes by their bits: a node has two branches, each to a node, a code's number or none. */
     private static final class CodeTree {
         private static final int NO_BRANCH = 0;
 
@@ -653,7 +680,7 @@ public final class FaxRows {
             return 2 * node + (one ? 1 : 0);
         }
 
-        /** No code begins another, so that a branch on the way to a code leads to a node or to none. */
+        /** No code begins another: a branch on the way to one leads to a node or to none. */
         private int nodeBelow(int branch) {
             if (branches[branch] == NO_BRANCH) {
                 if (2 * nodes + 1 >= branches.length) {
@@ -666,7 +693,7 @@ public final class FaxRows {
         }
 
         /** The number of the code that comes next; NONE if none fits, and the place stays. */
-        int read(BitPlace in) {
+        int read(Bits in) {
             int node = 0;
             for (int ahead = 0; ahead < in.left(); ahead++) {
                 int found = branches[branchOf(node, in.isOne(ahead))];
@@ -683,53 +710,6 @@ public final class FaxRows {
         }
     }
 
-    /** Where reading stands in bits. */
-    private static final class BitPlace {
-        private Bits bits;
-        private int place;
-
-        BitPlace(Bits bits) {
-            this.bits = bits;
-        }
-
-        void begin(Bits bits) {
-            this.bits = bits;
-            place = 0;
-        }
-
-        int left() {
-            return bits.count() - place;
-        }
-
-        boolean isOne(int ahead) {
-            return bits.isOne(place + ahead);
-        }
-
-        void skip(int more) {
-            place += more;
-        }
-
-        boolean isAtMark() {
-            int one = bits.nextOne(place);
-            return one < bits.count() && one - place >= MARK_ZEROS;
-        }
-
-        /** Goes behind the next mark, however far it is; false if there is none. */
-        boolean skipToMark() {
-            int from = place;
-            int one = bits.nextOne(from);
-            while (one < bits.count() && one - from < MARK_ZEROS) {
-                from = one + 1;
-                one = bits.nextOne(from);
-            }
-            if (one >= bits.count()) {
-                return false;
-            }
-            place = one + 1;
-            return true;
-        }
-    }
-
     /** Reads rows by their codes, and keeps what was read. */
     private static final class Reader {
         private static final int WHOLE = 0;
@@ -743,8 +723,8 @@ public final class FaxRows {
         private final CodeTree whiteRuns = new CodeTree();
         private final CodeTree blackRuns = new CodeTree();
         private final CodeTree modeCodes = new CodeTree();
-        private final BitPlace in;
         private final Told told;
+        private Bits in;
 
         Reader(int width, Bits source) {
             this.width = width;
@@ -753,13 +733,14 @@ public final class FaxRows {
             blackRuns.addAll(BLACK_RUNS, 0);
             blackRuns.addAll(LONG_RUNS, BLACK_RUNS.length);
             modeCodes.addAll(MODES, 0);
-            in = new BitPlace(source);
+            in = source;
             told = new Told(rows, width);
         }
 
         void begin(Bits source) {
             forget();
-            in.begin(source);
+            in = source;
+            in.beginReading();
         }
 
         void forget() {
@@ -775,7 +756,7 @@ public final class FaxRows {
         boolean isBlack(int x, int row) {
             int length = rows.length(row);
             int k = 0;
-            while (k < length && rows.item(row, k) <= x) {
+            while (k < length && rows.item(row, k, width) <= x) {
                 k++;
             }
             return k % 2 == 1;
@@ -786,11 +767,11 @@ public final class FaxRows {
         }
 
         int changeOf(int row, int k) {
-            return rows.item(row, k);
+            return rows.has(row) ? rows.item(row, k, NONE) : NONE;
         }
 
         int modeOf(int row, int k) {
-            return modes.item(row, k);
+            return modes.has(row) ? modes.item(row, k, NONE) : NONE;
         }
 
         /** How many rows, or why there are none. */
@@ -870,8 +851,12 @@ public final class FaxRows {
                 if (mode == EXTENSION) {
                     return EXTENDED;
                 }
-                if (mode == NONE || !follow(mode)) {
+                if (mode == NONE || mode == HORIZONTAL && !readHorizontal()
+                        || mode > HORIZONTAL && !turnBesideB1(mode - VERTICAL)) {
                     return DAMAGED;
+                }
+                if (mode == PASS) {
+                    told.moveTo(told.b2());
                 }
                 if (modes.length(modes.count()) < MOST_MODES) {
                     modes.append(mode);
@@ -880,16 +865,8 @@ public final class FaxRows {
             return told.isWhole() ? WHOLE : DAMAGED;
         }
 
-        /** Goes on in the row as a mode tells; false if the row is damaged there. */
-        private boolean follow(int mode) {
-            if (mode == PASS) {
-                told.moveTo(told.b2());
-                return true;
-            }
-            if (mode == HORIZONTAL) {
-                return readHorizontal();
-            }
-            int a1 = told.b1() + mode - VERTICAL;
+        private boolean turnBesideB1(int right) {
+            int a1 = told.b1() + right;
             if (a1 > width || a1 <= told.a0()) {
                 return false;
             }
@@ -914,8 +891,10 @@ public final class FaxRows {
 
         /** A run of no samples turns twice at one place, where there is no change then. */
         private void turnAt(int x) {
-            if (x < width) {
-                rows.appendOrCancel(x);
+            if (rows.last() == x) {
+                rows.dropLast();
+            } else if (x < width) {
+                rows.append(x);
             }
         }
 

@@ -1,4 +1,5 @@
 import java.util.ArrayList;
+import java.util.Arrays;
 import java.util.HashMap;
 import java.util.List;
 import java.util.Map;
@@ -446,7 +447,7 @@ public final class FaxRowsAgainstModel {
                     text.append(runs[random.nextInt(random.nextInt(3) == 0 ? runs.length : 20)]);
                     break;
                 case 4:
-                    text.append("0010011010100001101110").setLength(text.length() - 1);
+                    text.append(MODES[1]).append(run(0, false)).append(run(0, true));
                     break;
                 case 5:
                     text.append("001").append(run(random.nextInt(5), random.nextBoolean()))
@@ -521,7 +522,8 @@ public final class FaxRowsAgainstModel {
         compareRead(what, x, reading);
         due(what + " all rows", reading.rows.size(), rows.size());
         for (int i = 0; i < rows.size() && i < reading.rows.size(); i++) {
-            due(what + " as made", java.util.Arrays.equals(rows.get(i), reading.rows.get(i)) ? 1 : 0, 1);
+            boolean same = Arrays.equals(rows.get(i), reading.rows.get(i));
+            due(what + " as made", same ? 1 : 0, 1);
         }
         x.order(!lowFirst);
         compareRead(what + " turned", x, new Reading(kind, width, text(bytes, !lowFirst), 0));
@@ -543,6 +545,28 @@ public final class FaxRowsAgainstModel {
         compareRead(what, x, new Reading(kind, width, text, rule));
     }
 
+    /** A row of one colour has one run of each length, and so each code. */
+    private static void oneRun(int kind, int width, boolean colour) {
+        FaxRows x = new FaxRows(kind, width);
+        boolean[] row = new boolean[width];
+        Arrays.fill(row, colour);
+        for (int i = 0; i < width; i++) {
+            x.put(i, colour);
+        }
+        x.endRow();
+        String what = "run of " + width + (colour ? " black" : " white");
+        String text = written(kind, width, List.of(row), 0);
+        int[] bytes = bytes(text, false);
+        due(what + " encode", x.encode(), bytes.length);
+        for (int i = 0; i < bytes.length; i++) {
+            due(what + " byteAt " + i, x.byteAt(i), bytes[i]);
+        }
+        due(what + " decode", x.decode(), 1);
+        due(what + " damaged", x.damaged(0) ? 1 : 0, 0);
+        due(what + " changes", x.changes(0, 0), colour ? 0 : FaxRows.NONE);
+        due(what + " changes", x.changes(0, 1), FaxRows.NONE);
+    }
+
     private static void readDrawn(int seed) {
         Random random = new Random(seed);
         int kind = seed % 3;
@@ -553,6 +577,11 @@ public final class FaxRowsAgainstModel {
 
     public static void main(String[] args) {
         makeTables();
+        for (int width = 1; width <= 3000; width++) {
+            oneRun(0, width, false);
+            oneRun(0, width, true);
+            oneRun(2, width, true);
+        }
         for (int seed = 0; seed < 1500; seed++) {
             writtenAndRead(seed);
         }
