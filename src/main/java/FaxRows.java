@@ -460,8 +460,11 @@ public final class FaxRows {
             int start = place + ahead;
             int i = start;
             while (i < count && !isOne(i - place)) {
+                i++;
                 // Long fill is mostly whole bytes of 0.
-                i += (i & 7) == 0 && byteOf(i >> 3) == 0 ? 8 : 1;
+                while (i < count && (i & 7) == 0 && bytes[i >> 3] == 0) {
+                    i += 8;
+                }
             }
             return Math.min(i, count) - start;
         }
