@@ -805,8 +805,6 @@ public final class FaxRows {
                     return EXTENSION_MET;
                 }
                 if (state == DAMAGED) {
-                    rows.emptyOpen();
-                    modes.emptyOpen();
                     return row;
                 }
                 closeRow(false, false);
