@@ -674,32 +674,42 @@ public final class FaxRows {
         private void add(int code, int number) {
             int node = 0;
             for (int bit = topBit(code) >> 1; bit > 1; bit >>= 1) {
-                node = nodeBelow(branchOf(node, (code & bit) != 0));
+                node = nodeBelow(node, (code & bit) != 0);
             }
-            branches[branchOf(node, (code & 1) != 0)] = -1 - number;
-        }
-
-        private int branchOf(int node, boolean one) {
-            return 2 * node + (one ? 1 : 0);
+            setBranch(node, (code & 1) != 0, -1 - number);
         }
 
         /** No code begins another: a branch on the way to one leads to a node or to none. */
-        private int nodeBelow(int branch) {
-            if (branches[branch] == NO_BRANCH) {
-                if (2 * nodes + 1 >= branches.length) {
-                    branches = Arrays.copyOf(branches, 2 * branches.length);
-                }
-                branches[branch] = nodes;
-                nodes++;
+        private int nodeBelow(int node, boolean one) {
+            int found = branch(node, one);
+            if (found != NO_BRANCH) {
+                return found;
             }
-            return branches[branch];
+            if (2 * nodes + 1 >= branches.length) {
+                branches = Arrays.copyOf(branches, 2 * branches.length);
+            }
+            setBranch(node, one, nodes);
+            nodes++;
+            return nodes - 1;
+        }
+
+        private int branch(int node, boolean one) {
+            int i = 2 * node + (one ? 1 : 0);
+            return i >= 0 && i < branches.length ? branches[i] : NO_BRANCH;
+        }
+
+        private void setBranch(int node, boolean one, int target) {
+            int i = 2 * node + (one ? 1 : 0);
+            if (i >= 0 && i < branches.length) {
+                branches[i] = target;
+            }
         }
 
         /** The number of the code that comes next; NONE if none fits, and the place stays. */
         int read(Bits in) {
             int node = 0;
             for (int ahead = 0; ahead < in.left(); ahead++) {
-                int found = branches[branchOf(node, in.isOne(ahead))];
+                int found = branch(node, in.isOne(ahead));
                 if (found == NO_BRANCH) {
                     return NONE;
                 }
